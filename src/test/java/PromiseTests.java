@@ -245,6 +245,8 @@ public final class PromiseTests {
         roadFault("road 1;person 1;has 0 0;thing 1 1", 22, 1);
         roadFault("road 0;person 1;thing 1 1;has 0 x", 30, 1);
         roadFault("road 2;person 1;person 1;thing 1 1;has 0 0;has 1 0", 49, 1);
+        roadFault("road 2;person 1;" + many(6, "thing 1 1;") + "has 0 6", 82, 1);
+        roadFault("road 2;" + many(4, "person 1;") + "thing 1 1;has 4 0", 57, 1);
         roadFault("road 1;person 1;thing 1 1;thing 1 1;has 0 0;has 0 1", 48, 1);
         roadFault("stage 5;road 1", 0, 4);
         roadFault(" has 0 0", 1, 4);
@@ -289,6 +291,12 @@ public final class PromiseTests {
         ruleFault("carry ", 6, 0);
         ruleFault("carrys 1", 0, 0);
         ruleFault("Carry 1", 0, 0);
+        ruleFault("carrya 1", 0, 0);
+        ruleFault("carryz 1", 0, 0);
+        ruleFault("carry{1", 5, 0);
+        ruleFault("carry`1", 5, 0);
+        ruleFault("carry /1", 6, 0);
+        ruleFault("carry :1", 6, 0);
         ruleFault("carry 1;", 8, 0);
         ruleFault("carry if", 6, 0);
         ruleFault("carry not", 6, 0);
@@ -519,6 +527,13 @@ public final class PromiseTests {
         due(10, "not there yet", x.person(0, 1), 0);
         due(10, "now", x.day(), 1);
         due(10, "the more is lost", x.person(0, 2), 0);
+        // the last day, though no run of 512 calls comes so far
+        x = on("road 0;stage 1;person 1");
+        days(x, 998);
+        due(10, "day 998", x.day(), 0);
+        due(10, "day 999", x.day(), -1);
+        due(10, "999 it stays", x.count(6), 999);
+        due(10, "asked, it goes on", x.comes(0), 999);
         // just as much is enough
         x = on("road 1;stage 6;person 4;thing 2 1;has 0 0");
         due(10, "4 of 8", x.day(), 0);
@@ -843,6 +858,7 @@ public final class PromiseTests {
         due(21, "n 0", x.had(0, 0, 1, 0, 0), -3);
         due(21, "n 101", x.had(0, 0, 1, 101, 0), -3);
         due(21, "n 100", x.had(0, 0, 1, 100, 0), 0);
+        due(21, "n 1", x.had(1, 1, 2, 1, 0), 2);
         due(21, "what 3", x.had(0, 0, 1, 1, 3), -3);
         due(21, "what -1", x.had(0, 0, 1, 1, -1), -3);
         due(21, "person 2", x.had(2, 0, 1, 1, 0), -3);
@@ -1062,6 +1078,14 @@ public final class PromiseTests {
         due(28, "one each", x.look(2, 1), 1);
         x = on("road 1;stage 4");
         due(28, "no people", x.look(2, 0), -2);
+        // none and six rules
+        x = threeWays();
+        rule(x, "carry 1");
+        rule(x, "carry 1");
+        rule(x, "carry 0");
+        due(28, "seven alike", x.look(0, 1), 7);
+        due(28, "five of seven", x.look(2, 1), 5);
+        due(27, "seven", x.ruled(0), 7);
     }
 
     private static void seed() {
