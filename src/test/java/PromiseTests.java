@@ -260,6 +260,11 @@ public final class PromiseTests {
 
     private static void rule() {
         LoadRoad x = new LoadRoad();
+        put(x, "carry         ");
+        x.end(5);
+        due(5, "what was cut off is not there", x.rule(), fault(5, 0));
+        due(5, "400 bytes, and the end behind them", rule(x, "carry" + many(395, " ")), fault(400, 0));
+        due(4, "likewise of a road", road(x, "road 1;" + many(393, " ")), fault(400, 0));
         due(5, "first", rule(x, "carry 1"), 0);
         due(5, "tape", x.count(13), 0);
         due(5, "wide", rule(x, "  carry1+ 2 *weight if  not[worth<=3or has=1 ]and 1 >=0 ; carry day "), 1);
@@ -941,6 +946,10 @@ public final class PromiseTests {
         x = on("road 2;person 1;person 1;thing 9 5;thing 9 8;thing 9 3");
         due(24, "by turns", x.game(0, 1, 0), 6);
         due(24, "the best first", x.game(0, 1, 1), 1);
+        // all six lie there: 32 - 16 + 8 - 4 + 2 - 1
+        x = on("road 4;stage 1;person 20;person 20;thing 0 4;thing 0 32;thing 0 1;thing 0 16;thing 0 2;thing 0 8");
+        due(24, "six things", x.game(0, 1, 0), 21);
+        due(24, "six things, the first", x.game(0, 1, 1), 1);
         // of several the least
         x = on("road 2;person 1;person 1;thing 9 2;thing 9 5;thing 9 5;thing 9 5");
         due(24, "5 - 5 + 5 - 2", x.game(0, 1, 0), 3);
