@@ -947,7 +947,7 @@ public final class PromiseTests {
         due(24, "by turns", x.game(0, 1, 0), 6);
         due(24, "the best first", x.game(0, 1, 1), 1);
         // all six lie there: 32 - 16 + 8 - 4 + 2 - 1
-        x = on("road 4;stage 1;person 20;person 20;thing 0 4;thing 0 32;thing 0 1;thing 0 16;thing 0 2;thing 0 8");
+        x = on("road 4;stage 1;person 20;person 20;thing 0 4;thing 0 32;thing 0 1;thing 0 8;thing 0 2;thing 0 16");
         due(24, "six things", x.game(0, 1, 0), 21);
         due(24, "six things, the first", x.game(0, 1, 1), 1);
         // of several the least
