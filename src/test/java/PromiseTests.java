@@ -1,67 +1,8 @@
 /** By hand, promise for promise: ordinary inputs, the edges the document names, wrong inputs. */
-public final class PromiseTests {
-
-    private static int wrong = 0;
-    private static int asked = 0;
+public final class PromiseTests extends Bench {
 
     private static void due(int promise, String what, int got, int want) {
-        asked++;
-        if (got != want) {
-            wrong++;
-            System.out.println("promise " + promise + ": " + what + " answered " + got + ", due is " + want);
-        }
-    }
-
-    private static void put(LoadRoad x, String text) {
-        for (int i = 0; i < text.length(); i += 20) {
-            int[] five = new int[5];
-            for (int j = 0; j < 20; j++) {
-                int sign = i + j < text.length() ? text.charAt(i + j) : 0;
-                five[j / 4] = five[j / 4] << 8 | sign;
-            }
-            x.feed(five[0], five[1], five[2], five[3], five[4]);
-        }
-        x.end(text.length());
-    }
-
-    private static int road(LoadRoad x, String text) {
-        put(x, text);
-        return x.road();
-    }
-
-    private static int rule(LoadRoad x, String text) {
-        put(x, text);
-        return x.rule();
-    }
-
-    private static LoadRoad on(String text) {
-        LoadRoad x = new LoadRoad();
-        if (road(x, text) < 0) {
-            throw new IllegalStateException(text);
-        }
-        return x;
-    }
-
-    private static LoadRoad on(String text, String rule) {
-        LoadRoad x = on(text);
-        if (rule(x, rule) != 0 || x.force(0) != -1) {
-            throw new IllegalStateException(rule);
-        }
-        return x;
-    }
-
-    private static void days(LoadRoad x, int n) {
-        for (int i = 0; i < n; i++) {
-            x.day();
-        }
-    }
-
-    private static int fault(int place, int kind) {
-        return -2 - (1 + 8 * place + kind);
-    }
-
-    private static String many(int n, String text) {
-        return text.repeat(n);
+        due("promise " + promise + ": " + what, got, want);
     }
 
     /** Two on a road of two stages: 0 goes 2 a day with thing 0, 1 goes 4 with thing 2; 1 lies. */
@@ -108,10 +49,7 @@ public final class PromiseTests {
         image();
         back();
         wildArguments();
-        System.out.println(wrong == 0 ? asked + " answers are as due" : wrong + " answers are not as due");
-        if (wrong != 0) {
-            System.exit(1);
-        }
+        finish();
     }
 
     private static void newObject() {
@@ -355,19 +293,6 @@ public final class PromiseTests {
         ruleFault(many(12, "carry 1;") + "carr", 96, 0);
         ruleFault(many(12, "carry 1;"), 96, 0);
         ruleFault("carry 1 if 100000=wei;carry", 11, 1);
-    }
-
-    /** Whether a TEST holds for person 0, who goes 3 and has thing 0, of thing 1, on day 0. */
-    private static boolean holds(String test) {
-        LoadRoad x = on("road 2;stage 5;stage 7;person 3;thing 2 9;thing 4 6;has 0 0",
-                "carry 1 if thing=0;carry 1 if " + test);
-        x.day();
-        return x.thing(1, 2) == 0;
-    }
-
-    private static void so(String test) {
-        due(5, "'" + test + "' holds", holds(test) ? 1 : 0, 1);
-        due(5, "'not[" + test + "]' does not", holds("not[" + test + "]") ? 1 : 0, 0);
     }
 
     private static void ruleWords() {
