@@ -422,6 +422,13 @@ public final class AskEdges extends Bench {
         due("neither has anything", on("road 1;stage 10;person 1;person 10;thing 5 1").exchange(0, 1, 0), 11);
         due("in the TOWN", on("road 1;person 1;person 9;thing 5 1;thing 0 1;has 0 0;has 1 1").exchange(0, 1, 0), 0);
         due("in the TOWN nothing", on("road 1;person 1;person 9;thing 5 1;thing 0 1;has 0 0;has 1 1").exchange(0, 1, 1), -1);
+        // both weigh: 17 and 13 by 1 and 2 a day are 17 and 7, 13 and 17 are 13 and 9
+        x = on("road 1;stage 10;person 1;person 2;thing 1 1;thing 7 1;thing 3 1;has 0 1;has 1 2");
+        due("both weigh", x.exchange(0, 1, 0), 13 + 9);
+        due("thing 1", x.exchange(0, 1, 1), 1);
+        due("thing 2", x.exchange(0, 1, 2), 2);
+        due("both weigh, the other way", x.exchange(1, 0, 0), 13 + 9);
+        due("thing 2 first", x.exchange(1, 0, 1), 2);
         x = on("road 4;stage 10;person 1;person 10;thing 0 1;thing 0 1;thing 0 1;thing 0 1;thing 0 1;thing 9 1;"
                 + "has 0 5;has 1 4");
         due("thing 5", x.exchange(0, 1, 1), 5);
@@ -513,6 +520,8 @@ public final class AskEdges extends Bench {
         // the first one always passes; the second one takes twice between
         x = on("road 2;person 1;person 1;thing 9 1;thing 9 1;thing 9 3;thing 9 4;has 0 0;has 0 1");
         due("not if one passes twice", x.game(0, 1, 0), 2 - 7);
+        due("the other way the second one always passes", x.game(1, 0, 0), 7 - 2);
+        due("either first is as good, so the least", x.game(1, 0, 1), 2);
         x = on("road 4;person 1;person 1;thing 9 1;thing 9 2;thing 9 3;thing 9 4;thing 9 5;has 1 0");
         due("by turns to the end", x.game(0, 1, 0), 5 + 3 - 4 - 2 - 1);
         due("the best first", x.game(0, 1, 1), 4);
@@ -554,6 +563,7 @@ public final class AskEdges extends Bench {
         due("the highest", x.game(1, 0, 0), 768 - 24);
         x = on("road 4;person 1;person 1;" + many(6, "thing 0 50;") + "has 0 0;has 0 1;has 0 2;has 0 3");
         due("in the TOWN", x.game(0, 1, 0), 200 - 100);
+        due("in the TOWN, the other way", x.game(1, 0, 0), 100 - 200);
         due("all six lie there", on("road 3;person 1;person 1;" + many(5, "thing 0 50;") + "thing 0 50").game(0, 1, 0), 0);
     }
 
@@ -991,6 +1001,17 @@ public final class AskEdges extends Bench {
         due("no ACT", x.count(11), 1);
     }
 
+    /** How many are so by a NOTE that is so by none but rule 0, behind another in its place. */
+    private static int noteAsImaged(int which) {
+        LoadRoad x = noted(0);
+        x.note(2, 0, 1);
+        x.image(0);
+        x.note(-1, 0, 0);
+        x.note(which == 0 ? 60 : 2, which == 1 ? 1 : 0, which == 2 ? 0 : 1);
+        x.back(0);
+        return x.ruled(0);
+    }
+
     private static void backCall() {
         says("All is as in an IMAGE: the DAY; NONE, and nothing happens, if it was never made, or without it");
         for (int k : outside(0, 3)) {
@@ -1025,6 +1046,25 @@ public final class AskEdges extends Bench {
         due("an IMAGE of before the DAYS", x.back(1), 0);
         due("none to be UNDONE there", x.undo(), -2);
         due("a NOTE", x.count(10), 1);
+        // NOTES, each by its DAY, PERSON and PLACE
+        x = noted(0);
+        x.note(2, 0, 1);
+        x.note(1, 1, 1);
+        x.image(3);
+        x.note(-1, 0, 0);
+        x.note(3, 1, 0);
+        x.note(5, 0, 2);
+        due("not so", x.ruled(0), 0);
+        x.image(2);
+        x.back(3);
+        due("NOTES of the one IMAGE", x.count(10), 2);
+        due("by rule 0 alone", x.ruled(0), 1);
+        due("rule 0", x.ruled(1), 0);
+        x.back(2);
+        due("NOTES of the other IMAGE", x.ruled(0), 0);
+        for (int which = 0; which < 3; which++) {
+            due("each NOTE is all it was, " + which, noteAsImaged(which), 1);
+        }
         // to one without a ROAD
         LoadRoad y = new LoadRoad();
         y.image(0);

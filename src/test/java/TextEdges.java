@@ -316,6 +316,8 @@ public final class TextEdges extends Bench {
         roadFault(two + "has 99999 0", 50, 1);
         roadIs("road 1;" + many(4, "person 1;") + "thing 0 0;has 3 0", 4);
         roadFault("road 1;" + many(4, "person 1;") + "thing 0 0;has 4 0", 57, 1);
+        roadFault("road 4;" + many(6, "thing 0 0;") + "has 0 0", 71, 1);
+        roadFault("road 4;" + many(6, "thing 0 0;") + many(4, "person 1;") + "has 4 0", 107, 1);
         roadIs("road 1;person 1;thing 0 0;has 0 0;person 1;thing 0 0;has 1 1", 2);
         says("a THING that was told, that nobody has so far)");
         roadFault("road 2;person 1;has 0 0", 22, 1);
@@ -477,6 +479,18 @@ public final class TextEdges extends Bench {
                 boolean is = due[left - 4][i];
                 String test = left + all[i] + "5";
                 due("'" + test + "'", holds(test) ? 1 : 0, is ? 1 : 0);
+            }
+        }
+        String[] so = {"4<5", "5<=5", "5=5", "5>=5", "6>5"};
+        String[] not = {"5<5", "6<=5", "4=5", "4>=5", "5>5"};
+        for (int i = 0; i < 5; i++) {
+            for (int j = 0; j < 5; j++) {
+                so(so[i] + " and " + so[j]);
+                so("not [" + so[i] + " and " + not[j] + "]");
+                so("not [" + not[i] + " and " + so[j] + "]");
+                so(so[i] + " or " + not[j]);
+                so(not[i] + " or " + so[j]);
+                so("not [" + not[i] + " or " + not[j] + "]");
             }
         }
         so("0-1<0");
@@ -1049,6 +1063,11 @@ public final class TextEdges extends Bench {
         due("a FAULT is no RULE", rule(x, "carry 1;carry"), fault(13, 0));
         due("so the next one has its number", rule(x, "carry 0"), 2);
         due("and the TAPE is empty then", x.count(13), 0);
+        x.force(2);
+        road(x, "road 1;stage 9;person 1;thing 1 1;has 0 0");
+        x.day();
+        due("and is its own text alone", x.thing(0, 2), 10);
+        x.force(0);
         due("RULES", x.count(4), 3);
         due("the RULE IN FORCE stays", x.count(5), 0);
     }
