@@ -1,3 +1,4 @@
+import java.lang.reflect.Array;
 import java.lang.reflect.Constructor;
 import java.lang.reflect.Field;
 import java.lang.reflect.Method;
@@ -7,6 +8,7 @@ import java.nio.file.Files;
 import java.nio.file.Path;
 import java.util.ArrayList;
 import java.util.Arrays;
+import java.util.IdentityHashMap;
 import java.util.List;
 import java.util.TreeSet;
 import java.util.regex.Matcher;
@@ -25,6 +27,7 @@ public final class FaceTest {
         face();
         nested();
         source();
+        room();
         for (String each : wrong) {
             System.out.println(each);
         }
@@ -116,5 +119,65 @@ public final class FaceTest {
                 since = i;
             }
         }
+    }
+
+    /** All that is kept is made with the object; the calls of a run add nothing to it. */
+    private static void room() throws Exception {
+        LoadRoad x = new LoadRoad();
+        IdentityHashMap<Object, Integer> first = new IdentityHashMap<>();
+        long elements = keep(x, first);
+        must(first.size() <= 600 && elements <= 10000, first.size() + " objects, " + elements + " fields and elements");
+        callAll(x);
+        IdentityHashMap<Object, Integer> then = new IdentityHashMap<>();
+        keep(x, then);
+        must(first.keySet().containsAll(then.keySet()), "a call has made an object that is kept");
+        String text = Files.readString(Path.of("src/main/java/LoadRoad.java"), StandardCharsets.ISO_8859_1);
+        String methods = text.replaceAll("(?m)^ {4,8}(private )?(static )?final .* = new .*;$", "")
+                .replaceAll("(?sm)^( {4,8})(public )?(LoadRoad|Past)\\(\\) \\{.*?^\\1\\}$", "");
+        must(!Pattern.compile("\\bnew \\w|clone\\(|copyOf").matcher(methods).find(), "no call makes an object");
+    }
+
+    /** A road of two people with three things and a rule in force, and every call of the face once. */
+    private static void callAll(LoadRoad x) throws Exception {
+        Bench.road(x, "road 2;stage 4;stage 9;person 3;person 5;thing 2 10;thing 5 4;thing 0 7;has 0 0");
+        Bench.rule(x, "carry worth-weight if not [many>1 or load>6]");
+        x.force(0);
+        for (String each : FACE.split(" ")) {
+            int many = each.charAt(each.length() - 1) - '0';
+            Class<?>[] types = new Class<?>[many];
+            Object[] numbers = new Object[many];
+            for (int i = 0; i < many; i++) {
+                types[i] = int.class;
+                numbers[i] = i == 1 ? 1 : 0;
+            }
+            LoadRoad.class.getMethod(each.substring(0, each.indexOf('/')), types).invoke(x, numbers);
+        }
+        x.had(0, 0, 1, 2, 0);
+        x.robbed(9, 1);
+        x.thieves(3, 9, 50, 0);
+        x.image(3);
+        x.back(3);
+    }
+
+    /** What can be reached from an object: it is put into a map; how many fields and elements it has. */
+    private static long keep(Object object, IdentityHashMap<Object, Integer> known) throws Exception {
+        if (object == null || known.put(object, 1) != null) {
+            return 0;
+        }
+        long many = 0;
+        if (object.getClass().isArray()) {
+            many = Array.getLength(object);
+            for (int i = 0; i < Array.getLength(object) && !object.getClass().getComponentType().isPrimitive(); i++) {
+                many += keep(Array.get(object, i), known);
+            }
+            return many;
+        }
+        for (Field field : object.getClass().getDeclaredFields()) {
+            if (!Modifier.isStatic(field.getModifiers())) {
+                field.setAccessible(true);
+                many += 1 + (field.getType().isPrimitive() ? 0 : keep(field.get(object), known));
+            }
+        }
+        return many;
     }
 }

@@ -246,10 +246,10 @@ public final class RandomRuns {
         String road() {
             List<String> clauses = new ArrayList<>();
             int hands = pick(0, 4);
-            int people = pick(0, 4);
-            int things = pick(random.nextInt(5) == 0 ? 0 : 2, 6);
+            int people = random.nextInt(20) == 0 ? 5 : pick(0, 4);
+            int things = random.nextInt(20) == 0 ? 7 : pick(random.nextInt(5) == 0 ? 0 : 2, 6);
             int far = one("a", "b").equals("a") ? 9 : 60;
-            for (int i = pick(0, 8); i > 0; i--) {
+            for (int i = random.nextInt(20) == 0 ? 9 : pick(0, 8); i > 0; i--) {
                 clauses.add("stage " + pick(1, far));
             }
             List<String> later = new ArrayList<>();
@@ -281,11 +281,14 @@ public final class RandomRuns {
 
         String rule() {
             StringBuilder text = new StringBuilder();
-            int clauses = random.nextInt(10) == 0 ? pick(10, 14) : pick(1, 4);
+            boolean crowded = random.nextInt(10) == 0;
+            int clauses = crowded ? pick(10, 14) : pick(1, 4);
             for (int i = 0; i < clauses; i++) {
-                text.append(i == 0 ? "" : ";").append("carry ").append(sum(random.nextInt(12) == 0 ? 30 : 3));
-                if (i < clauses - 1 || random.nextBoolean()) {
-                    text.append(" if ").append(test(random.nextInt(15) == 0 ? 11 : 3));
+                text.append(i == 0 ? "" : ";").append("carry ");
+                text.append(sum(crowded ? 2 : random.nextInt(12) == 0 ? 30 : 3));
+                // Few TESTS in a crowd, so that it is the CLAUSES that are too many.
+                if (crowded ? random.nextInt(6) == 0 : i < clauses - 1 || random.nextBoolean()) {
+                    text.append(" if ").append(test(random.nextInt(15) == 0 ? pick(11, 16) : crowded ? 0 : 3));
                 }
             }
             return spoilt(spread(text.toString()));
@@ -315,7 +318,8 @@ public final class RandomRuns {
         }
 
         String fact(int depth) {
-            if (depth > 0 && random.nextInt(depth > 3 ? 10 : 3) > 0 && random.nextInt(3) > 0) {
+            boolean deeper = depth > 3 ? random.nextInt(10) > 0 : depth > 0 && random.nextInt(9) < 4;
+            if (deeper) {
                 return random.nextBoolean() ? "not " + fact(depth - 1) : "[" + test(depth - 1) + "]";
             }
             return sum(2) + one("<", "<=", "=", ">=", ">") + sum(2);
